@@ -33,7 +33,7 @@ final class AllTest {
         x.change(0, 1, 1, 0);
         x.purse(1, 3, 4);
         for (int town = 0; town < 4; town++) {
-            x.price(town, 2);
+            x.price(town, 3);
         }
         due("25: a third", 2, x.person(2, 1));
         x.trail(2);

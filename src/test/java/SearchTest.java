@@ -10,6 +10,7 @@ final class SearchTest {
     public static void main(String[] args) {
         fewest();
         fewestByTrade();
+        fewestByLongTrade();
         fewestOfPeople();
         fewestRefused();
         searchesAreCounted();
@@ -61,6 +62,24 @@ final class SearchTest {
         dueRow("3 are there then", x, person, 3, 4, 11);
         x.price(0, 3);
         dueRow("by the prices of now", x, person, 3, -1, -1);
+    }
+
+    private static void fewestByLongTrade() {
+        OtherCoins x = Checks.under("1:211/2:311/3:011/0:111");
+        Checks.someone(x, 0, 0, 4, 4, 0, 0);
+        int[] acts = {1, 6, 5, 2};
+        for (int good = 0; good < 4; good++) {
+            due("15: far " + good, acts[good], x.fewest(0, good, 0));
+        }
+        OtherCoins dear = Checks.under("1:344/2:044/3:144/0:244");
+        Checks.someone(dear, 0, 0, 0, 4, 0, 0);
+        Checks.someone(dear, 1, 1, 0, 0, 4, 0);
+        Checks.someone(dear, 3, 3, 4, 0, 0, 0);
+        Checks.someone(dear, 4, 0, 0, 4, 0, 0);
+        dueRow("of a person", dear, 0, 2, 11, 11);
+        dueRow("of a beggar", dear, 1, 2, 6, 12);
+        dueRow("of a merchant", dear, 2, 2, -1, -1);
+        dueRow("of a smuggler", dear, 3, 2, 3, 1);
     }
 
     private static void fewestOfPeople() {
@@ -145,6 +164,7 @@ final class SearchTest {
         due("16: nothing fits", 13, x.richest(smuggler, 3));
         x.purse(smuggler, 0, 3);
         due("16: of all its coins", 12, x.richest(smuggler, 2));
+        due("16: without a coin", 0, x.richest(x.person(0, 0), 8));
         int merchant = Checks.someone(x, 3, 0, 0, 1, 0, 0);
         due("16: a merchant", 4, x.richest(merchant, 3));
         due("16: no act is done", 0, x.count(3));
@@ -173,6 +193,12 @@ final class SearchTest {
         due("17: of two kinds", 7, two.dead(0));
         two.price(0, 4);
         due("17: a price is no matter", 7, two.dead(0));
+        OtherCoins first = Checks.under("1:111/2:010/3:010/1:110");
+        Checks.someone(first, 3, 0, 4, 2, 0, 1);
+        due("17: coin 0, and 2 and 3 each taken by one town", 4, first.dead(0));
+        OtherCoins last = Checks.under("1:111/3:010/0:010/1:110");
+        Checks.someone(last, 1, 0, 4, 2, 3, 1);
+        due("17: coin 2, and 0 taken by town 2 alone", 3, last.dead(0));
         OtherCoins all = Checks.under(LAW);
         Checks.someone(all, 0, 2, 4, 4, 4, 4);
         due("17: taken somewhere", 0, all.dead(0));
